@@ -458,7 +458,9 @@ public final class ReplacementWriter {
 
         void startAnew(int newGreatest) {
             greatest = newGreatest;
-            Arrays.fill(isSet, false);
+            for (int i = 0; i < isSet.length; i++) {
+                isSet[i] = false;
+            }
             names.clear();
             namesGiven = 0;
             markText.cutTo(0);
@@ -773,6 +775,7 @@ public final class ReplacementWriter {
                 if (output.isFull()) {
                     fail(TOO_LONG, -1);
                 }
+                // A byte further at least: so the loop's end can be seen here.
                 at = Math.max(at + 1, next);
             }
         }
