@@ -48,6 +48,8 @@ public final class RichTest {
         c.writes("${1:+${2:-x:y}:z}", RICH, "x:y").writes("${2:+a:${2:+b:c}}", RICH, "c").writes("${2:+a:\\}}", RICH, "}");
         c.writes("${1:+[${2:-\\}x}]:no}", RICH, "[}x]").writes("${2:-{a}b}", RICH, "{ab}").writes("${2:-\\${a}}", RICH, "${a}");
         c.writes("${1:+\\Q}\\E:y}", RICH, ":y}").writes("${1:+\\Q:\\E:y}", RICH, "").fails("${2:-\\x{41}}", RICH, -57, 5);
+        // What is behind a backslash ends no part, but \c takes the next backslash away from it.
+        c.fails("${2:-\\c\\${1}}", RICH, -58, 8).fails("${2:-\\c\\${2:-x}}", RICH, -58, 8);
         c.fails("${2:-\\c}}", RICH, -57, 5).fails("${2:-a\\}", RICH, -58, 0).fails("${2:-${2:-x}", RICH, -58, 0);
         String[] open = {"${1:-", "${1:+", "${1:+a:", "${1:+a:b", "${1:x}", "${1:", "${1:=x}", "${a:?}", "${1:+a:${2}", "${1:-\\"};
         for (String text : open) {
@@ -67,10 +69,11 @@ public final class RichTest {
             Check c = three();
             String nested = "${2:-".repeat(deep) + "x" + "}".repeat(deep);
             String choices = "${1:+".repeat(deep) + "x" + ":no}".repeat(deep);
+            String others = "${2:+:".repeat(deep) + "x" + "}".repeat(deep);
             if (deep <= 20) {
-                c.writes(nested, RICH, "x").writes(choices, RICH, "x");
+                c.writes(nested, RICH, "x").writes(choices, RICH, "x").writes(others, RICH, "x");
             } else {
-                c.fails(nested, RICH, -35, 100).fails(choices, RICH, -35, 100);
+                c.fails(nested, RICH, -35, 100).fails(choices, RICH, -35, 100).fails(others, RICH, -35, 120);
             }
         }
         Check c = three();
@@ -108,7 +111,7 @@ public final class RichTest {
 
     private static void escapedCharacters() {
         three().writes("\\a\\e\\f\\n\\r\\t", RICH, "\u0007\u001b\f\n\r\t");
-        three().writes("\\a1\\eb\\fF\\nn", RICH, "\u00071\u001bb\fF\nn");
+        three().writes("\\a1\\eb\\fF\\nn\\rr\\tt", RICH, "\u00071\u001bb\fF\nn\rr\tt");
     }
 
     private static void controlCharacters() {
@@ -128,6 +131,7 @@ public final class RichTest {
         c.writes("\\0|\\01|\\012|\\0123|\\08|\\0779", RICH, "\0|\1|\n|\n3|\0" + "8|?9");
         c.writes("\\x|\\x4|\\x41|\\x411|\\xg|\\xFf\\xfF", RICH, "\0|\4|A|A1|\0g|\u00ff\u00ff");
         c.writes("\\x{41}\\x{0041}\\x{00000041}\\x{fF}\\x{0}", RICH, "AAA\u00ff\0").writes("\\o{101}\\o{00000101}\\o{377}\\o{0}", RICH, "AA\u00ff\0");
+        c.writes("\\xA|\\xa|\\xAf|\\xG|\\x{A}|\\x{F0}", RICH, "\n|\n|\u00af|\0G|\n|\u00f0");
         Check u = new Check(1);
         u.writes("\\xe9\\x{e9}\\o{351}\\x{7ff}\\x{800}\\x{d7ff}\\x{e000}", RICH, "\u00e9\u00e9\u00e9\u07ff\u0800\ud7ff\ue000");
         u.writes("\\x{ffff}\\x{10000}\\x{10ffff}\\o{4177777}", RICH, "\uffff\uD800\uDC00\uDBFF\uDFFF\uDBFF\uDFFF");
