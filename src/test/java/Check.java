@@ -62,19 +62,25 @@ final class Check {
         }
     }
 
-    /** Adds bytes to THE TEXT by feed and end. */
+    /** Adds bytes to THE TEXT by feed and end; the odd ones come first, so that it can be filled to its last byte. */
     Check feedBytes(byte[] bytes) {
-        int before = writer.count(0);
-        for (int at = 0; at < bytes.length; at += 20) {
-            int[] fours = new int[5];
-            for (int i = 0; i < 20; i++) {
-                int value = at + i < bytes.length ? bytes[at + i] & 255 : 0;
-                fours[i / 4] = fours[i / 4] << 8 | value;
-            }
-            writer.feed(fours[0], fours[1], fours[2], fours[3], fours[4]);
+        int odd = bytes.length % 20;
+        if (odd > 0) {
+            writer.end(feedTwenty(bytes, 0) - 20 + odd);
         }
-        writer.end(before + bytes.length);
+        for (int at = odd; at < bytes.length; at += 20) {
+            feedTwenty(bytes, at);
+        }
         return this;
+    }
+
+    private int feedTwenty(byte[] bytes, int at) {
+        int[] fours = new int[5];
+        for (int i = 0; i < 20; i++) {
+            int value = at + i < bytes.length ? bytes[at + i] & 255 : 0;
+            fours[i / 4] = fours[i / 4] << 8 | value;
+        }
+        return writer.feed(fours[0], fours[1], fours[2], fours[3], fours[4]);
     }
 
     Check feedText(String text) {
@@ -107,6 +113,24 @@ final class Check {
             bytes[i] = (byte) writer.result(i);
         }
         return bytes;
+    }
+
+    /** THE RESULT, a character for each byte. */
+    String resultAsBytes() {
+        return new String(result(), StandardCharsets.ISO_8859_1);
+    }
+
+    /** The bytes of a text whose characters are 0 to FF. */
+    static byte[] bytes(String text) {
+        return text.getBytes(StandardCharsets.ISO_8859_1);
+    }
+
+    static boolean isLetter(int c) {
+        return c >= 'A' && c <= 'Z' || c >= 'a' && c <= 'z';
+    }
+
+    static boolean isDigit(int c) {
+        return c >= '0' && c <= '9';
     }
 
     /** The text is written without a code, and this is the result. */
