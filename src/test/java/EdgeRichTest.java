@@ -31,6 +31,7 @@ public final class EdgeRichTest {
         quotesToTheEndOfThePart();
         quotesAreAsTheyAre();
         backslashAtTheEnd();
+        partEndsWhereTheTextGoesOn();
         firstCodeMet();
         Check.finish();
     }
@@ -356,6 +357,15 @@ public final class EdgeRichTest {
     private static void backslashAtTheEnd() {
         three().fails("\\", RICH, -57, 0).fails("ab\\", RICH, -57, 2).writes("\\\\", RICH, "\\").fails("\\\\\\", RICH, -57, 2);
         three().fails("${2:-\\", RICH, -58, 0).fails("\\U\\", RICH, -57, 2);
+    }
+
+    // What is behind a part is not of it: a sign at its end that asks for more has nothing behind it.
+    private static void partEndsWhereTheTextGoesOn() {
+        three().fails("${2:-$}1", RICH, -35, 5).fails("${1:+$:1}", RICH, -35, 5).fails("${2:+:$}1", RICH, -35, 6).fails("${2:-\\c}A", RICH, -57, 5);
+        three().fails("${1:+\\c:A}", RICH, -57, 5).fails("${2:-\\o}{101}", RICH, -57, 5).writes("${2:-$1}1", RICH, "One1").writes("${2:-$a}a", RICH, "Onea");
+        three().fails("${2:-$*}MARK}", RICH, -35, 5).writes("${2:-$*MARK}S", RICH, "mkS").writes("${2:-\\u}ab", RICH, "Ab");
+        // \c takes the \ that hides a sign from the end of the part, and what it hid stands bare then.
+        three().fails("${2:-\\c\\\\}", RICH, -57, 8).fails("${2:-\\c\\$}}", RICH, -35, 8).fails("${2:-\\c\\${1}}", RICH, -58, 8);
     }
 
     // "The first code met is that of write"
